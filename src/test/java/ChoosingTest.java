@@ -116,11 +116,17 @@ public final class ChoosingTest {
         Check.due("26: 6 never goes", Check.NONE, d.fewest(100));
         Check.due("26: 0", Check.BEYOND, d.fewest(0));
         Check.due("26: 101", Check.BEYOND, d.fewest(101));
-        SumDoor one = covers("x=17", "x=0", "x=17+0*x");
+        SumDoor one = covers("x=17", "x=0", "x=13");
         one.prisoner(0, 4, 1);
         one.prisoner(5, 4, 1);
-        one.rich(999);
-        Check.due("26: 0 lets out both now: fewer count ahead of the least", 2, one.fewest(50));
+        one.prisoner(5, 1, 42);
+        Check.due("26: 0 lets out 5 yet", 32, one.lets(1, 50));
+        Check.due("26: 13 lets out both", 33, one.lets(2, 50));
+        Check.due("26: one is fewer than the first two", 4, one.fewest(50));
+        SumDoor first = covers("x=17", "x=99", "x=0");
+        first.prisoner(0, 4, 1);
+        first.prisoner(5, 4, 1);
+        Check.due("26: the first and the last", 5, first.fewest(50));
         SumDoor none = new SumDoor();
         Check.due("26: no SUMS", Check.NONE, none.fewest(1));
         Check.setAll(none, 4, 0);
@@ -140,7 +146,9 @@ public final class ChoosingTest {
         Check.due("27: no CHALK", Check.NONE, d.skillFor(1, 0, 200));
         d.prisoner(0, 2, 0);
         Check.due("27: he buys", 1, d.skillFor(1, 0, 1));
-        int[][] bad = {{-1, 0, 1}, {10, 0, 1}, {0, -1, 1}, {0, 3, 1}, {0, 0, 0}, {0, 0, 201}};
+        Check.sumFrom(d, "x=02", 0, 1);
+        Check.due("27: just by 9", 9, d.skillFor(0, 3, 1));
+        int[][] bad = {{-1, 0, 1}, {10, 0, 1}, {0, -1, 1}, {0, 4, 1}, {0, 0, 0}, {0, 0, 201}};
         for (int[] b : bad) {
             Check.due("27: BEYOND", Check.BEYOND, d.skillFor(b[0], b[1], b[2]));
         }
@@ -197,6 +205,8 @@ public final class ChoosingTest {
         d.set(0);
         d.minutes(1);
         Check.due("29: CHALK as it is now", 1, d.could(0, 480));
+        Check.sumFrom(d, "x=0", 0, 1);
+        Check.due("29: ANSWER 0, behind 1", 8, d.could(0, 1));
         Check.due("29: NUMBER stays", 1, d.of(0, 5));
         int[][] bad = {{-1, 1}, {10, 1}, {0, 0}, {0, 481}};
         for (int[] b : bad) {

@@ -9,6 +9,7 @@ public final class MinutesTest {
         selling();
         sellers();
         lips();
+        firstReads();
         whoseLips();
         minutesAndState();
         outAndDay();
@@ -174,8 +175,18 @@ public final class MinutesTest {
         d.prisoner(0, 3, 9);
         Check.due("18: 8 reads from the CELL below", 1, d.minutes(1));
         Check.due("18: 8 too", 34 + 256, d.out());
-        state("18: who reads works on", d, 8, 0, 3, 0);
+        state("18: who reads has worked nothing", d, 8, 0, 3, 0);
         Check.due("18: and pays nothing", 47, d.of(0, 1));
+    }
+
+    private static void firstReads() {
+        SumDoor d = Check.doorWith("x=0", 0, 1);
+        Check.setAll(d, 1, 0);
+        d.prisoner(1, 1, 50);
+        d.rich(0);
+        Check.due("18: 1 is too rich", 0, d.minutes(1));
+        Check.due("18: 0 and 2 read", 2, d.minutes(1));
+        Check.due("18: they are OUT", 5, d.out());
     }
 
     /** PRISONER 0 has ANSWER 3, 1 has 0, both are too rich to go; 2 stands between, without CHALK. */

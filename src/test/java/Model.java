@@ -9,14 +9,6 @@ import java.util.Map;
  * texts are parsed anew for each value, and every minute is gone through.
  */
 final class Model {
-    static final int BEYOND = -1000001;
-    static final int FULL = -1000002;
-    static final int KIND = -1000003;
-    static final int NONE = -1000004;
-    static final int STATE = -1000005;
-    static final int MISSING = -1000006;
-    static final int SIZE = -1000007;
-
     static final class Fault extends Exception {
         private static final long serialVersionUID = 1L;
         final int place;
@@ -349,10 +341,10 @@ final class Model {
 
     int feed(int bytes, int n) {
         if (!in(n, 1, 4)) {
-            return tell(BEYOND);
+            return tell(Check.BEYOND);
         }
         if (tape.length() + n > 40) {
-            return tell(FULL);
+            return tell(Check.FULL);
         }
         String more = "";
         for (int i = 0; i < n; i++) {
@@ -370,10 +362,10 @@ final class Model {
 
     int sum(int kind, int m) {
         if (!in(kind, 0, 6) || !in(m, 1, 99)) {
-            return tell(BEYOND);
+            return tell(Check.BEYOND);
         }
         if (now.sums.size() == 8) {
-            return tell(FULL);
+            return tell(Check.FULL);
         }
         String text = tape;
         tape = "";
@@ -388,7 +380,7 @@ final class Model {
 
     int sumOf(int sum, int what) {
         if (noSum(sum) || !in(what, 0, 3)) {
-            return tell(BEYOND);
+            return tell(Check.BEYOND);
         }
         Sum s = now.sums.get(sum);
         return what == 0 ? s.kind : what == 1 ? s.m : what == 2 ? hard(s) : solvers(s, s.m).size();
@@ -396,7 +388,7 @@ final class Model {
 
     int change(int sum, int what, int v) {
         if (noSum(sum) || !in(what, 0, 1) || !in(v, what, what == 0 ? 6 : 99)) {
-            return tell(BEYOND);
+            return tell(Check.BEYOND);
         }
         Sum s = now.sums.get(sum);
         int was = what == 0 ? s.kind : s.m;
@@ -410,14 +402,14 @@ final class Model {
 
     int side(int sum, int side, int x) {
         if (noSum(sum) || !in(side, 0, 1)) {
-            return tell(BEYOND);
+            return tell(Check.BEYOND);
         }
         return sides(now.sums.get(sum).text, x)[side];
     }
 
     int solves(int sum, int x) {
         if (noSum(sum) || !in(x, 0, 99)) {
-            return tell(BEYOND);
+            return tell(Check.BEYOND);
         }
         Sum s = now.sums.get(sum);
         return solved(s, x, s.m) ? 1 : 0;
@@ -425,16 +417,16 @@ final class Model {
 
     int solution(int sum, int i) {
         if (noSum(sum) || !in(i, 0, 99)) {
-            return tell(BEYOND);
+            return tell(Check.BEYOND);
         }
         Sum s = now.sums.get(sum);
         List<Integer> all = solvers(s, s.m);
-        return i < all.size() ? all.get(i) : tell(NONE);
+        return i < all.size() ? all.get(i) : tell(Check.NONE);
     }
 
     int both(int one, int other) {
         if (noSum(one) || noSum(other)) {
-            return tell(BEYOND);
+            return tell(Check.BEYOND);
         }
         List<Integer> all = solvers(now.sums.get(one), now.sums.get(one).m);
         all.retainAll(solvers(now.sums.get(other), now.sums.get(other).m));
@@ -443,7 +435,7 @@ final class Model {
 
     int strict(int sum) {
         if (noSum(sum)) {
-            return tell(BEYOND);
+            return tell(Check.BEYOND);
         }
         for (int many = 1; many <= 100; many++) {
             for (int m = 1; m <= 99; m++) {
@@ -452,16 +444,16 @@ final class Model {
                 }
             }
         }
-        return tell(NONE);
+        return tell(Check.NONE);
     }
 
     int prisoner(int p, int what, int v) {
         if (!in(p, 0, 9) || !in(what, 0, 4)) {
-            return tell(BEYOND);
+            return tell(Check.BEYOND);
         }
         int[] most = {9, 999, 99, 19, 1};
         if (!in(v, what == 0 ? 1 : 0, most[what])) {
-            return tell(BEYOND);
+            return tell(Check.BEYOND);
         }
         int was = of(p, what);
         Man m = now.men.get(p);
@@ -477,7 +469,7 @@ final class Model {
 
     int of(int p, int what) {
         if (!in(p, 0, 9) || !in(what, 0, 8)) {
-            return tell(BEYOND);
+            return tell(Check.BEYOND);
         }
         Man m = now.men.get(p);
         return new int[] {m.skill, m.chalk, m.price, m.cell, m.may, m.number, m.answer, m.work, m.out ? 1 : 0}[what];
@@ -485,7 +477,7 @@ final class Model {
 
     int set(int sum) {
         if (sum != -1 && noSum(sum)) {
-            return tell(BEYOND);
+            return tell(Check.BEYOND);
         }
         int was = now.theSum;
         now.theSum = sum;
@@ -495,7 +487,7 @@ final class Model {
 
     int rich(int v) {
         if (!in(v, 0, 999)) {
-            return tell(BEYOND);
+            return tell(Check.BEYOND);
         }
         int was = now.rich;
         now.rich = v;
@@ -504,7 +496,7 @@ final class Model {
 
     int alms(int n) {
         if (!in(n, 1, 10)) {
-            return tell(BEYOND);
+            return tell(Check.BEYOND);
         }
         for (int i = 0; i < n; i++) {
             now.z = (int) (now.z * 1103515245L + 12345L);
@@ -516,12 +508,12 @@ final class Model {
 
     int school(int one, int other) {
         if (!in(one, 0, 9) || !in(other, 0, 9) || one == other) {
-            return tell(BEYOND);
+            return tell(Check.BEYOND);
         }
         Man a = now.men.get(one);
         Man b = now.men.get(other);
         if (a.skill == b.skill) {
-            return tell(STATE);
+            return tell(Check.STATE);
         }
         Man weak = a.skill < b.skill ? a : b;
         Man strong = weak == a ? b : a;
@@ -532,10 +524,10 @@ final class Model {
 
     int minutes(int n) {
         if (!in(n, 1, 100)) {
-            return tell(BEYOND);
+            return tell(Check.BEYOND);
         }
         if (now.minute + n > 480) {
-            return tell(STATE);
+            return tell(Check.STATE);
         }
         int before = outs(now);
         gone(now, n);
@@ -554,10 +546,10 @@ final class Model {
 
     int ahead(int n, int what) {
         if (!in(n, 0, 200) || !in(what, 0, 2)) {
-            return tell(BEYOND);
+            return tell(Check.BEYOND);
         }
         if (now.minute + n > 480) {
-            return tell(STATE);
+            return tell(Check.STATE);
         }
         All a = gone(now.twin(), n);
         int answers = 0;
@@ -569,10 +561,10 @@ final class Model {
 
     int when(int p) {
         if (!in(p, 0, 9)) {
-            return tell(BEYOND);
+            return tell(Check.BEYOND);
         }
         if (now.men.get(p).out || now.minute > 280) {
-            return tell(STATE);
+            return tell(Check.STATE);
         }
         All a = now.twin();
         for (int n = 1; n <= 200; n++) {
@@ -581,12 +573,12 @@ final class Model {
                 return n;
             }
         }
-        return tell(NONE);
+        return tell(Check.NONE);
     }
 
     int lets(int sum, int n) {
         if (noSum(sum) || !in(n, 1, 200)) {
-            return tell(BEYOND);
+            return tell(Check.BEYOND);
         }
         return outs(gone(dayWith(sum), n));
     }
@@ -602,7 +594,7 @@ final class Model {
 
     int choose(int n) {
         if (!in(n, 1, 200)) {
-            return tell(BEYOND);
+            return tell(Check.BEYOND);
         }
         int best = -1;
         int least = 0;
@@ -613,19 +605,19 @@ final class Model {
                 least = w;
             }
         }
-        return best == -1 ? tell(NONE) : best;
+        return best == -1 ? tell(Check.NONE) : best;
     }
 
     int wrongs(int sum, int n) {
         if (noSum(sum) || !in(n, 1, 200)) {
-            return tell(BEYOND);
+            return tell(Check.BEYOND);
         }
         return wrongOf(sum, n);
     }
 
     int fewest(int n) {
         if (!in(n, 1, 100)) {
-            return tell(BEYOND);
+            return tell(Check.BEYOND);
         }
         int count = now.sums.size();
         int[] lets = new int[count];
@@ -639,7 +631,7 @@ final class Model {
                 }
             }
         }
-        return tell(NONE);
+        return tell(Check.NONE);
     }
 
     private boolean fits(int set, int[] lets) {
@@ -659,7 +651,7 @@ final class Model {
 
     int skillFor(int p, int sum, int n) {
         if (!in(p, 0, 9) || noSum(sum) || !in(n, 1, 200)) {
-            return tell(BEYOND);
+            return tell(Check.BEYOND);
         }
         for (int skill = 1; skill <= 9; skill++) {
             All a = dayWith(sum);
@@ -668,15 +660,15 @@ final class Model {
                 return skill;
             }
         }
-        return tell(NONE);
+        return tell(Check.NONE);
     }
 
     int richFor(int n) {
         if (!in(n, 1, 100)) {
-            return tell(BEYOND);
+            return tell(Check.BEYOND);
         }
         if (now.theSum == -1) {
-            return tell(STATE);
+            return tell(Check.STATE);
         }
         int best = -1;
         for (int rich : new int[] {0, 100, 200, 300, 400, 500, 600, 700, 800, 900, 999}) {
@@ -686,12 +678,12 @@ final class Model {
                 best = rich;
             }
         }
-        return best == -1 ? tell(NONE) : best;
+        return best == -1 ? tell(Check.NONE) : best;
     }
 
     int could(int p, int n) {
         if (!in(p, 0, 9) || !in(n, 1, 480)) {
-            return tell(BEYOND);
+            return tell(Check.BEYOND);
         }
         int set = 0;
         for (int s = 0; s < now.sums.size(); s++) {
@@ -714,7 +706,7 @@ final class Model {
 
     int hold(int spot, int sum) {
         if (!in(spot, 0, 9) || sum != -1 && noSum(sum)) {
-            return tell(BEYOND);
+            return tell(Check.BEYOND);
         }
         now.spots[spot] = sum;
         return 1;
@@ -722,25 +714,25 @@ final class Model {
 
     int as(int spot, int kind) {
         if (!in(spot, 0, 9) || !in(kind, 0, 6)) {
-            return tell(BEYOND);
+            return tell(Check.BEYOND);
         }
         int sum = now.spots[spot];
         if (sum == -1) {
-            return tell(MISSING);
+            return tell(Check.MISSING);
         }
         String[] under = {"0123456", "15", "23", "3", "4", "5", "6"};
-        return under[kind].indexOf('0' + now.sums.get(sum).kind) >= 0 ? sum : tell(KIND);
+        return under[kind].indexOf('0' + now.sums.get(sum).kind) >= 0 ? sum : tell(Check.KIND);
     }
 
     int sheet(int s, int b, int n) {
         if (!in(s, 0, 3) || b != 0 && b != 8 && b != 16 && b != 32) {
-            return tell(BEYOND);
+            return tell(Check.BEYOND);
         }
         if (n < 0) {
-            return tell(SIZE);
+            return tell(Check.SIZE);
         }
         if (n > 40) {
-            return tell(BEYOND);
+            return tell(Check.BEYOND);
         }
         bits[s] = b;
         sheets[s] = b == 0 ? null : new int[n];
@@ -749,13 +741,13 @@ final class Model {
 
     int write(int s, int i, int v) {
         if (!in(s, 0, 3)) {
-            return tell(BEYOND);
+            return tell(Check.BEYOND);
         }
         if (sheets[s] == null) {
-            return tell(MISSING);
+            return tell(Check.MISSING);
         }
         if (!in(i, 0, sheets[s].length - 1)) {
-            return tell(BEYOND);
+            return tell(Check.BEYOND);
         }
         sheets[s][i] = v << 32 - bits[s] >> 32 - bits[s];
         return 1;
@@ -763,16 +755,16 @@ final class Model {
 
     int copy(int s, int from, int t, int to, int n) {
         if (!in(s, 0, 3) || !in(t, 0, 3)) {
-            return tell(BEYOND);
+            return tell(Check.BEYOND);
         }
         if (sheets[s] == null || sheets[t] == null) {
-            return tell(MISSING);
+            return tell(Check.MISSING);
         }
         if (bits[s] != bits[t]) {
-            return tell(KIND);
+            return tell(Check.KIND);
         }
         if (from < 0 || to < 0 || n < 0 || (long) from + n > sheets[s].length || (long) to + n > sheets[t].length) {
-            return tell(BEYOND);
+            return tell(Check.BEYOND);
         }
         int[] were = sheets[s].clone();
         for (int i = 0; i < n; i++) {
@@ -783,10 +775,10 @@ final class Model {
 
     int load(int s) {
         if (!in(s, 0, 3)) {
-            return tell(BEYOND);
+            return tell(Check.BEYOND);
         }
         if (sheets[s] == null) {
-            return tell(MISSING);
+            return tell(Check.MISSING);
         }
         int came = 0;
         for (int v : sheets[s]) {
@@ -800,13 +792,13 @@ final class Model {
 
     int judge(int s, int sum) {
         if (!in(s, 0, 3)) {
-            return tell(BEYOND);
+            return tell(Check.BEYOND);
         }
         if (sheets[s] == null) {
-            return tell(MISSING);
+            return tell(Check.MISSING);
         }
         if (noSum(sum)) {
-            return tell(BEYOND);
+            return tell(Check.BEYOND);
         }
         List<Integer> right = solvers(now.sums.get(sum), now.sums.get(sum).m);
         List<Integer> has = new ArrayList<>();
@@ -830,7 +822,7 @@ final class Model {
 
     int undo() {
         if (kept == null) {
-            return tell(NONE);
+            return tell(Check.NONE);
         }
         now = kept.twin();
         return now.minute;
@@ -852,13 +844,13 @@ final class Model {
             case 5: return tape.length();
             case 6: return now.z;
             case 7: return Integer.bitCount(outs(now));
-            default: return tell(BEYOND);
+            default: return tell(Check.BEYOND);
         }
     }
 
     int status(int which) {
         if (!in(which, -1, 6)) {
-            return tell(BEYOND);
+            return tell(Check.BEYOND);
         }
         return which == -1 ? Arrays.stream(told).sum() : told[which];
     }

@@ -57,7 +57,13 @@ public final class ModelTest {
     private String anyBytes() {
         StringBuilder text = new StringBuilder(side(0) + "=" + side(0));
         String signs = "x()+-*/%=0123456789y\u00ff ";
-        text.setCharAt(random.nextInt(text.length()), signs.charAt(random.nextInt(signs.length())));
+        int place = random.nextInt(text.length());
+        char sign = signs.charAt(random.nextInt(signs.length()));
+        switch (random.nextInt(3)) {
+            case 0 -> text.setCharAt(place, sign);
+            case 1 -> text.insert(place, sign);
+            default -> text.deleteCharAt(place);
+        }
         return text.toString();
     }
 
@@ -134,7 +140,8 @@ public final class ModelTest {
             case "as" -> call(i, name, pick(0, 9), pick(0, 6));
             case "sheet" -> call(i, name, pick(0, 3), random.nextInt(8) == 0 ? pick(0, 32) : 8 << random.nextInt(3),
                     random.nextBoolean() ? pick(0, 40) : pick(0, 4));
-            case "write" -> call(i, name, pick(0, 3), pick(0, 12), random.nextBoolean() ? random.nextInt() : pick(1, 9));
+            case "write" -> call(i, name, pick(0, 3), pick(0, 12),
+                    random.nextBoolean() ? random.nextInt() : pick(1, 9));
             case "copy" -> call(i, name, pick(0, 3), pick(0, 6), pick(0, 3), pick(0, 6), pick(0, 6));
             case "load" -> call(i, name, pick(0, 3));
             case "judge" -> {

@@ -61,7 +61,9 @@ public final class SheetsTest {
         d.write(0, 0, 5);
         Check.due("33: all 0 again", 3, d.sheet(0, 8, 3));
         Check.due("33: so it is", 0, d.load(0));
+        Check.sumFrom(d, "x=0", 0, 1);
         d.sheet(0, 8, 1);
+        Check.due("33: 0 it is", 0, d.judge(0, 0));
         d.write(0, 0, 5);
         int[][] due = {{-1, 8, 1, Check.BEYOND}, {4, 8, 1, Check.BEYOND}, {0, 1, 1, Check.BEYOND},
             {0, 64, 1, Check.BEYOND}, {0, -8, 1, Check.BEYOND}, {0, 24, 1, Check.BEYOND}, {0, 9, -1, Check.BEYOND},

@@ -107,11 +107,17 @@ public final class SumsTest {
             {"1234=x", 3}, {"x=1x", 3}, {"xx=1", 1}, {"x1=1", 1}, {"1x=1", 1}, {"(x=1", 2}, {"x)=1", 1}, {"()=1", 1},
             {"(((((x", 4}, {"((((x)+((1=", 8}, {"((((x)+(1))))=1=", 15}, {"-x=1", 0}, {"x--1=1", 2}, {"x+*1=1", 2},
             {"x =1", 1}, {" x=1", 0}, {"x=(1", 4}, {"x=(1))", 5}, {"X=1", 0}, {"x=1\u0000", 3}, {"x=\u00ff", 2},
-            {"(x)(x)=1", 3}, {"(x)1=1", 3}, {"(x)x=1", 3}, {"x(1)=1", 1}, {"2(1)=1", 1}, {"x=1.", 3}, {"x=12345", 5},
+            {"(x)(x)=1", 3}, {"(x)1=1", 3}, {"(1)2=1", 3}, {"x=(1)2", 5},
+            {"1+2345=1", 5}, {"(x)x=1", 3}, {"x(1)=1", 1}, {"2(1)=1", 1}, {"x=1.", 3}, {"x=12345", 5},
             {"x+1", 3}, {"(", 1}, {"x=((x)", 6}, {"x<1", 1}, {"x:1", 1}, {"x=1\u00b1", 3}, {"x,1", 1}};
         for (Object[] f : faulty) {
             Check.due("4: " + f[0], -10 - (Integer) f[1], Check.sumFrom(new SumDoor(), (String) f[0], 0, 1));
         }
+        SumDoor again = new SumDoor();
+        Check.due("4: four are open at the end", -15, Check.sumFrom(again, "((((x", 0, 1));
+        Check.due("4: a text is read anew", 0, Check.sumFrom(again, "((((x))))=1", 0, 1));
+        Check.due("4: one side alone", -11, Check.sumFrom(again, "x", 0, 1));
+        Check.due("4: parted anew", 1, Check.sumFrom(again, "x=1", 0, 1));
         String longest = "x*x*x*x*x*x*x*x*x*x*x*x*x*x*x*x*x*x*x=xx";
         Check.due("4: forty bytes, the last at fault", -49, Check.sumFrom(new SumDoor(), longest, 0, 1));
         Check.due("4: forty bytes, too early an end", -50,
@@ -283,11 +289,17 @@ public final class SumsTest {
         Check.due("11: LESS: none", Check.NONE, d.strict(0));
         d.change(0, 0, 5);
         Check.due("11: MORE: m is nothing to it", 1, d.strict(0));
+        d.change(0, 0, 4);
+        Check.due("11: OTHER", 1, d.strict(0));
         Check.sumFrom(d, "x+50=0", 6, 4);
         Check.due("11: some do", 50, d.strict(1));
         Check.sumFrom(d, "x+100=0", 6, 4);
         Check.due("11: none do", Check.NONE, d.strict(2));
         Check.due("11: sum -1", Check.BEYOND, d.strict(-1));
         Check.due("11: sum 3", Check.BEYOND, d.strict(3));
+        Check.sumFrom(d, "x+99=0", 6, 4);
+        Check.due("11: by 99 alone", 99, d.strict(3));
+        Check.sumFrom(d, "x=100", 4, 4);
+        Check.due("11: all do by any", 1, d.strict(4));
     }
 }
