@@ -659,8 +659,9 @@ public final class SumDoor {
 
     private boolean answersAlone(int prisoner, int sum, int n) {
         tryDay(sum);
+        int hard = now.sums.hardOf(sum);
         for (int i = 0; i < n && trial.answer[prisoner] < 0; i++) {
-            trial.workOn(prisoner, now.sums);
+            trial.workOn(prisoner, now.sums, hard);
         }
         return trial.answer[prisoner] >= 0;
     }
@@ -1072,22 +1073,27 @@ public final class SumDoor {
             }
         }
 
-        /** Lets n MINUTES go; behind one that changed nobody no other will, so only MINUTE counts on. */
+        /**
+         * Lets n MINUTES go. Behind one that changed nobody no other will, so only MINUTE counts on;
+         * while nobody inside has an ANSWER, nobody need ask for one.
+         */
         private void goOn(Sums sums, int n) {
+            int hard = sums.hardOf(theSum);
             isMoved = sums.has(theSum);
             for (int i = 0; i < n && isMoved; i++) {
                 isMoved = false;
                 int speakers = answerSet() & ~outSet();
                 for (int p = 0; p < PRISONERS; p++) {
-                    workOn(p, sums);
+                    workOn(p, sums, hard);
                 }
-                for (int p = 0; p < PRISONERS; p++) {
+                int sellers = answerSet() & ~outSet();
+                for (int p = 0; p < PRISONERS && sellers != 0; p++) {
                     buy(p);
                 }
-                for (int p = 0; p < PRISONERS; p++) {
+                for (int p = 0; p < PRISONERS && speakers != 0; p++) {
                     readLips(p, speakers);
                 }
-                for (int p = 0; p < PRISONERS; p++) {
+                for (int p = 0; p < PRISONERS && sellers != 0; p++) {
                     goOut(p);
                 }
             }
@@ -1102,8 +1108,7 @@ public final class SumDoor {
             return p >= 0 && p < PRISONERS && isOut[p] == 0 && answer[p] >= 0;
         }
 
-        private void workOn(int p, Sums sums) {
-            int hard = sums.hardOf(theSum);
+        private void workOn(int p, Sums sums, int hard) {
             if (!seeks(p) || chalk[p] == 0 || hard <= 0) {
                 return;
             }
