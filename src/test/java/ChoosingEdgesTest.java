@@ -77,6 +77,9 @@ public final class ChoosingEdgesTest {
         for (int[] c : due) {
             Edge.told("MAY " + c[0] + " by " + c[1], c[2], () -> eight(c[0]), d -> d.choose(c[1]));
         }
+        Edge.told("in or OUT", 3, ChoosingEdgesTest::twoMayNot, d -> d.choose(5));
+        Edge.says(0, "of several that would do the least number counts, where nothing else is told");
+        Edge.told("one wrong by 1 and by 3, two by the others", 1, ChoosingEdgesTest::twoWays, d -> d.choose(5));
         Edge.says(24, "BEYOND.");
         refusedMinutes(200, n -> d -> d.choose(n));
         Edge.says(24, "NONE: there are no SUMS.");
@@ -91,7 +94,13 @@ public final class ChoosingEdgesTest {
         int[][] due = {{1, 0, 10, 10}, {1, 0, 11, 0}, {0, 0, 10, 0}, {0, 0, 11, 10}, {1, 7, 17, 10}, {1, 7, 200, 0},
             {0, 7, 1, 0}};
         for (int[] c : due) {
-            Edge.told("MAY " + c[0] + ", SUM " + c[1] + " by " + c[2], c[3], () -> eight(c[0]), d -> d.wrongs(c[1], c[2]));
+            String what = "MAY " + c[0] + ", SUM " + c[1] + " by " + c[2];
+            Edge.told(what, c[3], () -> eight(c[0]), d -> d.wrongs(c[1], c[2]));
+        }
+        int[] wrong = {3, 2, 1, 0};
+        for (int sum = 0; sum <= 3; sum++) {
+            int asked = sum;
+            Edge.told("SUM " + sum, wrong[sum], ChoosingEdgesTest::twoMayNot, d -> d.wrongs(asked, 5));
         }
         Edge.told("busy, nobody goes, 6 may not", 9, Doors::busy, d -> d.wrongs(0, 1));
         Edge.says(25, "BEYOND.");
@@ -108,6 +117,7 @@ public final class ChoosingEdgesTest {
     private static void fewest() {
         Edge.says(26, "(n MINUTES, 1 to 100, of a NEW DAY each; none of them, if nobody MAY)");
         Edge.told("nobody MAY, all could go", 0, () -> eight(0), d -> d.fewest(100));
+        Edge.told("nobody MAY, nobody goes by any", 0, () -> eight(0), d -> d.fewest(10));
         Edge.told("nobody MAY, there are no SUMS", 0, ChoosingEdgesTest::nobodyMay, d -> d.fewest(1));
         Edge.told("100", 1, () -> Doors.one("x=99", 4, 1), d -> d.fewest(100));
         Edge.told("1", 1, () -> Doors.one("x=99", 4, 1), d -> d.fewest(1));
@@ -148,6 +158,13 @@ public final class ChoosingEdgesTest {
         return d;
     }
 
+    /** As twoWays(), but PRISONER 2 may not go. */
+    private static SumDoor twoMayNot() {
+        SumDoor d = twoWays();
+        d.prisoner(2, 4, 0);
+        return d;
+    }
+
     private static void fewestOfSeveral() {
         Edge.says(26, "of several the least");
         int[] lets = {4, 6, 1, 3};
@@ -160,6 +177,17 @@ public final class ChoosingEdgesTest {
         less.prisoner(1, 4, 0);
         Edge.says(26, "nobody else by any");
         Edge.due("1 may not: 0 and 2", 5, less.fewest(100));
+        Edge.says(26, "The fewest SUMS");
+        Edge.told("2 may not: 3 alone", 8, ChoosingEdgesTest::twoMayNot, d -> d.fewest(5));
+        SumDoor idle = twoMayNot();
+        idle.prisoner(2, 1, 0);
+        Edge.due("1 and 2 would do, but 3 alone does", 8, idle.fewest(5));
+        SumDoor undone = new SumDoor();
+        undone.image();
+        Check.sumFrom(undone, "x=0", 0, 10);
+        Edge.due("a SUM that lets all go", 1, undone.fewest(1));
+        undone.undo();
+        Edge.due("no more of it", Check.NONE, undone.fewest(1));
     }
 
     /** SUM s is solved behind s + 1 MINUTES, and lets out PRISONER s alone, who has no CHALK left then. */
@@ -199,6 +227,7 @@ public final class ChoosingEdgesTest {
         Edge.told("199", 2, () -> Doors.worker("x=049", 3, 200), d -> d.skillFor(0, 0, 199));
         Edge.told("CHALK for 199", 2, () -> Doors.worker("x=049", 3, 199), d -> d.skillFor(0, 0, 200));
         Edge.told("at MINUTE 480", 1, () -> late(Doors.worker("x=049", 3, 999)), d -> d.skillFor(0, 0, 200));
+        Edge.told("1, if he buys", 1, ChoosingEdgesTest::free, d -> d.skillFor(1, 0, 1));
         Edge.says(27, "BEYOND.");
         refusedPrisoners(p -> d -> d.skillFor(p, 0, 1));
         refusedSums(sum -> d -> d.skillFor(0, sum, 1));
@@ -206,7 +235,8 @@ public final class ChoosingEdgesTest {
         Edge.says(27, "NONE.");
         Edge.refused("9 is too little", Check.NONE, () -> Doors.worker("x=03", 3, 50), d -> d.skillFor(0, 0, 1));
         Edge.refused("no CHALK", Check.NONE, () -> Doors.worker("x=0", 3, 0), d -> d.skillFor(0, 0, 200));
-        Edge.refused("no NUMBER SOLVES it", Check.NONE, () -> Doors.worker("x=100", 3, 999), d -> d.skillFor(0, 0, 200));
+        Edge.refused("no NUMBER SOLVES it", Check.NONE, () -> Doors.worker("x=100", 3, 999),
+                d -> d.skillFor(0, 0, 200));
     }
 
     /** PRISONER 0, who may not go, solves THE SUM in a MINUTE, and has that CHALK then. */

@@ -12,8 +12,8 @@ import java.util.regex.Pattern;
 public final class FaceTest {
     private static final String[] FACE = {
         "ahead 2", "alms 1", "as 2", "both 2", "change 3", "choose 1", "copy 5", "could 2", "count 1", "day 0",
-        "feed 2", "fewest 1", "hold 2", "image 0", "judge 2", "lets 2", "load 1", "minutes 1", "of 2", "out 0", "prisoner 3",
-        "rich 1", "richFor 1", "school 2", "seed 1", "set 1", "sheet 3", "side 3", "skillFor 3", "solution 2",
+        "feed 2", "fewest 1", "hold 2", "image 0", "judge 2", "lets 2", "load 1", "minutes 1", "of 2", "out 0",
+        "prisoner 3", "rich 1", "richFor 1", "school 2", "seed 1", "set 1", "sheet 3", "side 3", "skillFor 3", "solution 2",
         "solves 2", "status 1", "strict 1", "sum 2", "sumOf 2", "tear 0", "undo 0", "when 1", "wipe 0", "write 3",
         "wrongs 2"};
     private static final int[] ODD_ONES = {Integer.MIN_VALUE, -1, 0, 1, 2, 3, 4, 7, 8, 9, 10, 16, 40, 99, 100, 480,

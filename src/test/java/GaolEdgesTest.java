@@ -201,6 +201,32 @@ public final class GaolEdgesTest {
         for (int p = 0; p < then.length; p++) {
             Edge.due("CHALK of " + p, then[p], order.of(p, 1));
         }
+        firstAndLastBuy();
+    }
+
+    private static void firstAndLastBuy() {
+        Edge.says(0, "of those who have one (also just now, by (a) or (b)) and aren't OUT");
+        SumDoor d = Doors.poor("x=0");
+        int[][] men = {{0, 1, 50, 0}, {5, 2, 50, 10}, {9, 1, 50, 99}};
+        for (int[] m : men) {
+            d.prisoner(m[0], 0, m[1]);
+            d.prisoner(m[0], 1, m[2]);
+            d.prisoner(m[0], 2, m[3]);
+        }
+        Edge.due("0 buys of 5, then sells to all the others", 10, d.minutes(1));
+        Edge.due("0 paid 10", 39, d.of(0, 1));
+        Edge.due("5 got 10", 59, d.of(5, 1));
+        Edge.due("9 asked 0, for nothing", 49, d.of(9, 1));
+        SumDoor late = Doors.poor("x=0");
+        late.prisoner(0, 2, 0);
+        late.prisoner(9, 0, 2);
+        late.prisoner(9, 1, 50);
+        late.prisoner(9, 2, 10);
+        late.prisoner(1, 0, 1);
+        late.prisoner(1, 1, 50);
+        Edge.due("0 would sell for nothing, but has none", 2, late.minutes(1));
+        Edge.due("1 paid 10", 39, late.of(1, 1));
+        Edge.due("9 got 10", 59, late.of(9, 1));
     }
 
     /** PRISONER 0 has ANSWER 0 and CHALK 49, too much to go; the others have none and stand in CELL 15. */
@@ -224,6 +250,16 @@ public final class GaolEdgesTest {
             Edge.due("CELL " + c[1] + " reads " + c[0], c[2], d.minutes(1));
             Edge.due("1 has it", c[2] - 1, d.of(1, 6));
         }
+        SumDoor middle = Doors.poor("x=0");
+        middle.rich(0);
+        middle.prisoner(5, 0, 2);
+        middle.prisoner(5, 1, 50);
+        middle.prisoner(5, 3, 10);
+        middle.minutes(1);
+        middle.prisoner(0, 3, 9);
+        middle.prisoner(9, 3, 11);
+        Edge.due("the first and the last read 5", 2, middle.minutes(1));
+        Edge.due("0 and 9 go", 1 + 512, middle.out());
     }
 
     private static void lipsOfThisMinute() {

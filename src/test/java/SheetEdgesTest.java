@@ -7,6 +7,8 @@ public final class SheetEdgesTest {
     private static final int[] ALL_BITS = {8, 16, 32};
 
     public static void main(String[] args) {
+        findingsInOrder();
+        calls();
         hold();
         as();
         sheet();
@@ -23,6 +25,78 @@ public final class SheetEdgesTest {
         count();
         status();
         Edge.finish(31, 42);
+    }
+
+    /** Calls with all that can be wrong with them: the first finding of their words is told. */
+    private static void findingsInOrder() {
+        Edge.says(0, "Each act tells its findings in the order in which they are asked (that of its words)");
+        Edge.due("feed", Check.BEYOND, fullOfAll().feed(0, 5));
+        Edge.due("feed, then", Check.FULL, fullOfAll().feed(0, 4));
+        Edge.due("sum", Check.BEYOND, fullOfAll().sum(7, 0));
+        Edge.due("sum, then", Check.FULL, fullOfAll().sum(6, 99));
+        Edge.due("solution", Check.BEYOND, fullOfAll().solution(0, 100));
+        Edge.due("solution, then", Check.NONE, fullOfAll().solution(0, 1));
+        Edge.due("school", Check.BEYOND, fullOfAll().school(3, 3));
+        Edge.due("school, then", Check.STATE, fullOfAll().school(3, 4));
+        Edge.due("minutes", Check.BEYOND, fullOfAll().minutes(101));
+        Edge.due("minutes, then", Check.STATE, fullOfAll().minutes(100));
+        Edge.due("ahead", Check.BEYOND, fullOfAll().ahead(200, 3));
+        Edge.due("ahead, then", Check.STATE, fullOfAll().ahead(200, 2));
+        Edge.due("when", Check.BEYOND, fullOfAll().when(10));
+        Edge.due("when, then", Check.STATE, fullOfAll().when(9));
+        Edge.due("when, STATE ahead of NONE", Check.STATE, Doors.at(281).when(0));
+        Edge.due("choose", Check.BEYOND, new SumDoor().choose(201));
+        Edge.due("choose, then", Check.NONE, new SumDoor().choose(200));
+        Edge.due("fewest", Check.BEYOND, new SumDoor().fewest(101));
+        Edge.due("fewest, then", Check.NONE, new SumDoor().fewest(100));
+        Edge.due("richFor", Check.BEYOND, new SumDoor().richFor(101));
+        Edge.due("richFor, then", Check.STATE, new SumDoor().richFor(100));
+        Edge.due("as", Check.BEYOND, new SumDoor().as(0, 7));
+        Edge.due("as, then", Check.MISSING, new SumDoor().as(0, 6));
+        Edge.due("sheet", Check.BEYOND, new SumDoor().sheet(0, 9, -1));
+        Edge.due("sheet, then", Check.SIZE, new SumDoor().sheet(0, 0, -1));
+        Edge.due("write", Check.BEYOND, Doors.busy().write(4, -1, 0));
+        Edge.due("write, then", Check.MISSING, Doors.busy().write(3, -1, 0));
+        Edge.due("write, at last", Check.BEYOND, Doors.busy().write(2, -1, 0));
+        Edge.due("copy", Check.BEYOND, Doors.busy().copy(3, -1, 4, -1, -1));
+        Edge.due("copy, then", Check.MISSING, Doors.busy().copy(3, -1, 2, -1, -1));
+        Edge.due("copy, then", Check.KIND, Doors.busy().copy(1, -1, 2, -1, -1));
+        Edge.due("copy, at last", Check.BEYOND, Doors.busy().copy(1, -1, 0, -1, -1));
+        Edge.due("judge", Check.BEYOND, Doors.busy().judge(4, 3));
+        Edge.due("judge, then", Check.MISSING, Doors.busy().judge(3, 3));
+        Edge.due("judge, at last", Check.BEYOND, Doors.busy().judge(2, 3));
+    }
+
+    /** Eight SUMS, a TAPE of 40 bytes, MINUTE 480. */
+    private static SumDoor fullOfAll() {
+        SumDoor d = Doors.eight();
+        for (int i = 0; i < 10; i++) {
+            d.feed(0, 4);
+        }
+        for (int i = 0; i < 24; i++) {
+            d.minutes(20);
+        }
+        return d;
+    }
+
+    private static void calls() {
+        Edge.says(0, "An object is used for at most 512 calls after it has been made");
+        SumDoor d = new SumDoor();
+        d.image();
+        for (int turn = 0; turn < 127; turn++) {
+            d.feed(0x783d3137, 4);
+            Edge.due("a SUM in turn " + turn, 0, d.sum(0, 10));
+            d.choose(200);
+            d.undo();
+        }
+        Edge.due("call 510", 4, d.feed(0x783d3137, 4));
+        Edge.due("call 511", 0, d.sum(0, 10));
+        Edge.due("call 512", 1023, d.lets(0, 200));
+        SumDoor counted = new SumDoor();
+        for (int call = 1; call <= 511; call++) {
+            counted.undo();
+        }
+        Edge.due("511 findings", 511, counted.status(3));
     }
 
     private static void hold() {
@@ -390,18 +464,39 @@ public final class SheetEdgesTest {
         Edge.due("SHEETS stay", 1, d.load(0));
         Edge.due("room for a SUM again", 0, d.sum(0, 10));
         Edge.due("it is what was on THE TAPE", 1, d.solution(0, 0));
-        SumDoor full = Doors.eight();
-        full.image();
-        full.change(7, 1, 99);
-        full.undo();
-        Edge.due("eight are kept", 8, full.count(0));
-        Edge.due("the eighth as it was", 10, full.sumOf(7, 1));
-        Edge.due("its TEXT", 17, full.solution(7, 0));
+        imageOfAll();
         SumDoor late = Doors.at(480);
         late.image();
         late.day();
         Edge.due("MINUTE 480", 480, late.undo());
         Edge.due("and no more of them", Check.STATE, late.minutes(1));
+    }
+
+    private static void imageOfAll() {
+        SumDoor full = Doors.eight();
+        full.seed(5);
+        full.hold(0, 0);
+        full.hold(9, 7);
+        full.image();
+        full.alms(1);
+        full.hold(0, 1);
+        full.hold(9, -1);
+        full.hold(5, 5);
+        for (int sum = 0; sum <= 7; sum += 7) {
+            full.change(sum, 0, 6);
+            full.change(sum, 1, 99);
+        }
+        full.undo();
+        Edge.due("eight are kept", 8, full.count(0));
+        for (int sum = 0; sum <= 7; sum += 7) {
+            Edge.due("kind of " + sum, 0, full.sumOf(sum, 0));
+            Edge.due("m of " + sum, 10, full.sumOf(sum, 1));
+            Edge.due("TEXT of " + sum, 10 + sum, full.solution(sum, 0));
+        }
+        Edge.due("z", 5, full.count(6));
+        Edge.due("SPOT 0", 0, full.as(0, 0));
+        Edge.due("SPOT 9", 7, full.as(9, 0));
+        Edge.due("SPOT 5", Check.MISSING, full.as(5, 0));
     }
 
     private static void undoAndTear() {

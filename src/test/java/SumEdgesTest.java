@@ -96,6 +96,8 @@ public final class SumEdgesTest {
         fault("x(1)=1", 1);
         fault("(x)1=1", 3);
         fault("(1)(1)=1", 3);
+        fault("(1)2=1", 3);
+        fault("x=(12)3", 6);
         fault("x^2=1", 1);
         fault("x/1=:", 4);
         // a TEXT of more than 40 bytes goes on with these, so it is the end that comes too early
@@ -113,6 +115,11 @@ public final class SumEdgesTest {
         fault("x=(x", 4);
         fault("x=((x)", 6);
         fault("123", 3);
+        SumDoor again = new SumDoor();
+        Edge.due("four are open", -15, Check.sumFrom(again, "((((x", 0, 10));
+        Edge.due("none is as the next begins", 0, Check.sumFrom(again, "((((x))))=1", 0, 10));
+        Edge.due("parted", -12, Check.sumFrom(again, "x=", 0, 10));
+        Edge.due("the next is not", -11, Check.sumFrom(again, "x", 0, 10));
     }
 
     private static void sides(String text, int x, int left, int right) {
@@ -328,11 +335,13 @@ public final class SumEdgesTest {
         Edge.due("no TEXT is left", -10, d.sum(0, 10));
         Edge.due("no findings", 0, d.status(-1));
         SumDoor e = new SumDoor();
-        Check.feedText(e, "12");
+        Check.feedText(e, "x+x=999");
         e.wipe();
         Check.feedText(e, "3=x");
         Edge.due("what was is gone", 0, e.sum(0, 10));
         Edge.due("3 alone", 3, e.side(0, 0, 0));
+        Edge.due("x alone", 5, e.side(0, 1, 5));
+        Edge.due("no sign more", 2, e.sumOf(0, 2));
     }
 
     private static void sum() {
@@ -407,8 +416,8 @@ public final class SumEdgesTest {
         }
         Edge.due("no other SUM", 2, d.sumOf(1, 0));
         Edge.says(6, "BEYOND.");
-        int[][] bad = {{0, -1}, {0, 7}, {0, MIN}, {0, MAX}, {1, 0}, {1, 100}, {1, -1}, {1, MIN}, {1, MAX}, {-1, 1}, {2, 1},
-            {MIN, 1}, {MAX, 1}};
+        int[][] bad = {{0, -1}, {0, 7}, {0, MIN}, {0, MAX}, {1, 0}, {1, 100}, {1, -1}, {1, MIN}, {1, MAX},
+            {-1, 1}, {2, 1}, {MIN, 1}, {MAX, 1}};
         for (int[] b : bad) {
             Edge.refused("what " + b[0] + ", v " + b[1], Check.BEYOND, Doors::busy, c -> c.change(2, b[0], b[1]));
         }
