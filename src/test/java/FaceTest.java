@@ -54,6 +54,25 @@ public final class FaceTest {
             Check.due("the face: " + head.group(1), 1, source.contains("\n    " + head.group(1) + " {\n") ? 1 : 0);
         }
         Check.due("the document's face: the calls and the constructor", FACE.length + 1, heads);
+        groups(Files.readString(doc), source);
+    }
+
+    /** Ahead of which calls the interface says what. */
+    private static void groups(String doc, String source) {
+        Matcher group = Pattern.compile("^Ahead of the calls (.*) the interface says: (---- .*)[.]$", Pattern.MULTILINE)
+                .matcher(doc);
+        int grouped = 0;
+        while (group.find()) {
+            int at = source.indexOf("    // " + group.group(2) + "\n");
+            int end = source.indexOf("    // ----", at + 1);
+            for (String name : group.group(1).replace("`", "").split(", ")) {
+                grouped++;
+                int place = source.indexOf("    public int " + name + "(");
+                Check.due(name + " stands under " + group.group(2), 1, at >= 0 && at < place && place < end ? 1 : 0);
+                at = place;
+            }
+        }
+        Check.due("calls under a heading", FACE.length, grouped);
     }
 
     /** Nothing may be thrown: each call of the face with odd arguments, on doors that are full of things. */

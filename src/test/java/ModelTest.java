@@ -32,7 +32,35 @@ public final class ModelTest {
         for (int seed = 0; seed < RUNS; seed++) {
             new ModelTest(seed).go();
         }
+        for (int length = 0; length <= 5; length++) {
+            everyTextOf(new StringBuilder(), length);
+        }
         Check.finish();
+    }
+
+    /** A sign of each sort that a TEXT has, and one that it has not, in any order. */
+    private static void everyTextOf(StringBuilder text, int length) {
+        if (text.length() == length) {
+            compareText(text.toString());
+            return;
+        }
+        for (char sign : "x1+*()=y".toCharArray()) {
+            everyTextOf(text.append(sign), length);
+            text.setLength(text.length() - 1);
+        }
+    }
+
+    private static void compareText(String text) {
+        SumDoor door = new SumDoor();
+        int got = Check.sumFrom(door, text, 0, 1);
+        try {
+            int[] sides = new Model.Reader(text, 5).whole();
+            Check.due("a SUM: " + text, 0, got);
+            Check.due("left of " + text, sides[0], door.side(0, 0, 5));
+            Check.due("right of " + text, sides[1], door.side(0, 1, 5));
+        } catch (Model.Fault fault) {
+            Check.due("the FAULT of " + text, -10 - fault.place, got);
+        }
     }
 
     private void go() {
