@@ -157,7 +157,7 @@ public final class LanguageTest {
         everyCall(door, room.getCurrentThreadAllocatedBytes());
         long before = room.getCurrentThreadAllocatedBytes();
         long sum = 0;
-        for (int i = 0; i < 12; i++) {
+        for (int i = 0; i < 6; i++) {
             sum += everyCall(door, i);
         }
         long made = room.getCurrentThreadAllocatedBytes() - before;
