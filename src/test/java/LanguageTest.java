@@ -150,6 +150,9 @@ public final class LanguageTest {
     /** All calls of a run live in one room: but for the constructor and sum() nothing is made. */
     private static void whatCallsMake() {
         com.sun.management.ThreadMXBean room = (com.sun.management.ThreadMXBean) ManagementFactory.getThreadMXBean();
+        if (!room.isThreadAllocatedMemorySupported()) {
+            return;
+        }
         SumDoor door = new SumDoor();
         for (int s = 0; s < 8; s++) {
             Check.sumFrom(door, "(x+" + s + ")*x%37=x/3", s % 7, 1 + s);
